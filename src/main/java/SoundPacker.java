@@ -12,10 +12,13 @@ public final class SoundPacker {
     private static final int MOST_BITS = 24;
     private static final int LEAST_BLOCK = 16;
     private static final int MOST_BLOCK = 256;
+    private static final int MOST_FRAMES = MOST_SAMPLES / LEAST_BLOCK;
     private static final int MOST_RATE = 655350;
     private static final int MOST_COEFFICIENTS = 8;
     private static final int MOST_SHIFT = 14;
     private static final int COEFFICIENT_BITS = 15;
+    private static final long FARTHEST_RESIDUAL = 0x7FFFFFFFL;
+    private static final long LONGER_THAN_ANY = 0x7FFFFFFFFFFFFFFFL;
 
     private static final long MARK = 0x664C6143L;
     private static final int FIRST_WORDS_BYTES = 34;
@@ -97,7 +100,8 @@ public final class SoundPacker {
         }
         int moments = sampleCount / settings.channels;
         maker.begin(settings, moments);
-        for (int first = 0; first < moments; first += settings.block) {
+        for (int f = 0; f < MOST_FRAMES && f * settings.block < moments; f++) {
+            int first = f * settings.block;
             maker.addFrame(samples, first, Math.min(settings.block, moments - first), settings.bits, predictor);
         }
         return maker.pen.size();
@@ -330,7 +334,7 @@ public final class SoundPacker {
             first = predictor.order;
             for (int i = first; i < n; i++) {
                 long e = row[i] - predictor.foretell(row, i);
-                if (!within(e, -Integer.MAX_VALUE, Integer.MAX_VALUE)) {
+                if (!within(e, -FARTHEST_RESIDUAL, FARTHEST_RESIDUAL)) {
                     return false;
                 }
                 folded[i] = e >= 0 ? 2 * e : -2 * e - 1;
@@ -341,7 +345,7 @@ public final class SoundPacker {
         void measure() {
             int finest = finestOrder();
             addUp(finest);
-            size = Long.MAX_VALUE;
+            size = LONGER_THAN_ANY;
             for (int q = finest; q >= 0; q--) {
                 long bits = bitsInParts(q);
                 if (bits <= size) {
@@ -380,7 +384,7 @@ public final class SoundPacker {
             long bits = 6;
             for (int part = 0; part < 1 << q; part++) {
                 int many = (numbers >> q) - (part == 0 ? first : 0);
-                long least = Long.MAX_VALUE;
+                long least = LONGER_THAN_ANY;
                 for (int k = 0; k < KEYS; k++) {
                     long tried = 4 + sums[part * KEYS + k] + (long) many * (1 + k);
                     if (tried < least) {
@@ -435,7 +439,7 @@ public final class SoundPacker {
             length = n;
             bits = b;
             wasted = 0;
-            size = Long.MAX_VALUE;
+            size = LONGER_THAN_ANY;
         }
 
         void dropWasted() {
@@ -550,7 +554,6 @@ public final class SoundPacker {
 
     /** The stream that was made latest, and how each of its subframes is told. */
     private static final class Maker {
-        private static final int MOST_FRAMES = MOST_SAMPLES / LEAST_BLOCK;
         private static final int TOLD = 4;
         private static final int SIDE = 2;
         private static final int MIDDLE = 3;
@@ -737,8 +740,8 @@ public final class SoundPacker {
             at = 0;
             try {
                 openStream();
-                for (int first = 0; first < moments; first += found.block) {
-                    readFrame(first, Math.min(found.block, moments - first));
+                for (int f = 0; f < MOST_FRAMES && f * found.block < moments; f++) {
+                    readFrame(f, Math.min(found.block, moments - f * found.block));
                 }
                 expectEnd();
             } catch (IllegalStateException e) {
@@ -850,9 +853,9 @@ public final class SoundPacker {
             }
         }
 
-        private void readFrame(int first, int n) {
+        private void readFrame(int frame, int n) {
             int from = at >> 3;
-            int assignment = readHeader(first / found.block, n);
+            int assignment = readHeader(frame, n);
             expectSum(from, 8, FIRST_SUM);
             for (int c = 0; c < found.channels; c++) {
                 readSubframe(rows[c], n, found.bits + (isSide(assignment, c) ? 1 : 0));
@@ -860,6 +863,11 @@ public final class SoundPacker {
             expect(-at & 7, 0);
             expectSum(from, 16, SECOND_SUM);
             uniteRows(assignment, n);
+            keepSamples(frame * found.block, n);
+        }
+
+        /** The latest item is the second sum, where a number that is too far is told. */
+        private void keepSamples(int first, int n) {
             for (int c = 0; c < found.channels; c++) {
                 for (int i = 0; i < n; i++) {
                     failUnless(fits(rows[c][i], found.bits), UNFIT);

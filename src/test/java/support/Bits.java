@@ -1,0 +1,134 @@
+/** A stream written bit by bit, as a text of 0 and 1. */
+final class Bits {
+    private final StringBuilder text = new StringBuilder();
+    private int frameFrom = 0;
+
+    static Bits of(String zerosAndOnes) {
+        Bits b = new Bits();
+        b.text.append(zerosAndOnes);
+        return b;
+    }
+
+    Bits put(int width, long x) {
+        for (int i = width - 1; i >= 0; i--) {
+            text.append((x >> i & 1) == 1 ? '1' : '0');
+        }
+        return this;
+    }
+
+    Bits add(String zerosAndOnes) {
+        text.append(zerosAndOnes);
+        return this;
+    }
+
+    Bits row(long zeros) {
+        for (long i = 0; i < zeros; i++) {
+            text.append('0');
+        }
+        text.append('1');
+        return this;
+    }
+
+    /** What a stream begins with, the first words being the last ones. */
+    Bits head(int channels, int bits, int block, int rate, long moments) {
+        return put(32, 0x664C6143L).put(1, 1).put(7, 0).put(24, 34)
+                .settings(channels, bits, block, rate, moments);
+    }
+
+    Bits settings(int channels, int bits, int block, int rate, long moments) {
+        return put(16, block).put(16, block).put(24, 0).put(24, 0).put(20, rate).put(3, channels - 1)
+                .put(5, bits - 1).put(36, moments).put(64, 0).put(64, 0);
+    }
+
+    Bits frame(int assignment, int number, int moments) {
+        frameFrom = text.length();
+        put(14, 0x3FFE).put(2, 0).put(4, 6).put(4, 0).put(4, assignment).put(4, 0);
+        if (number < 128) {
+            put(8, number);
+        } else {
+            put(8, 192 + number / 64).put(8, 128 + number % 64);
+        }
+        return put(8, moments - 1).put(8, sum(8, 7));
+    }
+
+    Bits endFrame() {
+        while (text.length() % 8 != 0) {
+            text.append('0');
+        }
+        return put(16, sum(16, 0x8005));
+    }
+
+    /** The sum over what stands from the frame's first bit on, by the document's own words. */
+    private long sum(int width, int putTo) {
+        return sumOf(text.substring(frameFrom), width, putTo);
+    }
+
+    static long sumOf(String bits, int width, int putTo) {
+        long sum = 0;
+        for (int i = 0; i < bits.length(); i++) {
+            long goes = sum >> (width - 1) & 1;
+            sum = sum << 1 & (1L << width) - 1;
+            if (goes != bits.charAt(i) - '0') {
+                sum ^= putTo;
+            }
+        }
+        return sum;
+    }
+
+    int length() {
+        return text.length();
+    }
+
+    String text() {
+        return text.toString();
+    }
+
+    int bytes() {
+        return text.length() / 8;
+    }
+
+    int octet(int i) {
+        return Integer.parseInt(text.substring(8 * i, 8 * i + 8), 2);
+    }
+
+    Bits flip(int bit) {
+        text.setCharAt(bit, text.charAt(bit) == '0' ? '1' : '0');
+        return this;
+    }
+
+    Bits set(int at, int width, long x) {
+        text.replace(at, at + width, new Bits().put(width, x).text());
+        return this;
+    }
+
+    Bits copy() {
+        return of(text());
+    }
+
+    Bits cut(int bytes) {
+        text.setLength(8 * bytes);
+        return this;
+    }
+
+    /** Puts the stream behind the tape of x. */
+    boolean feedTo(SoundPacker x) {
+        boolean all = true;
+        for (int i = 0; i < bytes(); i += 8) {
+            int n = Math.min(8, bytes() - i);
+            long w = 0;
+            for (int j = 0; j < n; j++) {
+                w |= (long) octet(i + j) << (56 - 8 * j);
+            }
+            all &= x.feed(w, n);
+        }
+        return all;
+    }
+
+    static Bits madeBy(SoundPacker x) {
+        Bits b = new Bits();
+        for (int i = 0; i < x.count(5); i++) {
+            b.put(8, x.octet(i));
+        }
+        return b;
+    }
+}
