@@ -738,6 +738,7 @@ public final class SoundPacker {
             fault = 0;
             place = -1;
             at = 0;
+            boolean sound = true;
             try {
                 openStream();
                 for (int f = 0; f < MOST_FRAMES && f * found.block < moments; f++) {
@@ -745,10 +746,10 @@ public final class SoundPacker {
                 }
                 expectEnd();
             } catch (IllegalStateException e) {
-                moments = 0;
+                sound = false;
             }
             size = 0;
-            return fault == 0;
+            return sound;
         }
 
         /** Leaves the reading at once: only the first fault is told. */
@@ -796,7 +797,6 @@ public final class SoundPacker {
         }
 
         private void pass(int bits) {
-            item = at;
             if (bits > 8 * size - at) {
                 fail(ENDS, at);
             }

@@ -15,6 +15,7 @@ public final class MakeTest {
         assignments();
         frameNumbers();
         manySubframes();
+        longestFrames();
         keptStream();
         wrongWays();
         Check.end();
@@ -155,6 +156,10 @@ public final class MakeTest {
         x.make();
         // 12345 foretells -16383 * 12345 / 16384 = -12344.2.., down: -12345, residual 0; -12345 foretells 12344, residual 1.
         told("linear, down", x, 0, 0, 32, 0, 0, 8 + 16 + 9 + 15 + 10 + 39 + 2 * 19, 0);
+        SoundPacker atFirst = packer(1, 16, 64, v);
+        atFirst.coefficient(-1);
+        atFirst.make();
+        told("the shift is 0 at first", atFirst, 0, 0, 32, 0, 0, 8 + 16 + 9 + 15 + 10 + 39, 0);
         x.predict(14);
         x.make();
         told("no coefficients", x, 0, 0, 1, 0, -1, 8 + 40 * 16, 0);
@@ -372,6 +377,32 @@ public final class MakeTest {
         Check.due("frames", x.count(6), 52);
         told("the last subframe", x, 51, 4, 0, 0, -1, 12, 4);
         told("the first subframe", x, 0, 0, 0, 0, -1, 12, 4);
+    }
+
+    /** Two channels in frames of 256 moments, told in each of the four ways. */
+    private static void longestFrames() {
+        int[] assignments = {1, 8, 9, 10};
+        Bits b = new Bits().head(2, 16, 256, 8000, 1024);
+        for (int f = 0; f < 4; f++) {
+            b.frame(assignments[f], f, 256);
+            subframe(b, 0).put(f == 2 ? 17 : 16, 1001);
+            subframe(b, 0).put(f == 1 || f == 3 ? 17 : 16, f == 1 ? 2001 : -3001).endFrame();
+        }
+        SoundPacker x = new SoundPacker();
+        b.feedTo(x);
+        Check.due("read()", x.read(), 2048);
+        int[] due = {1001, -3001, 1001, -1000, -2000, -3001, -499, 2502};
+        for (int f = 0; f < 4; f++) {
+            for (int i : new int[] {0, 1, 510, 511}) {
+                Check.due("moments of frame " + f, x.sample(512 * f + i), due[2 * f + i % 2]);
+            }
+        }
+        // One number in each row: 24 bits, and one more for l - r.
+        Check.due("make()", x.make(), 42 + 4 * (7 + 6 + 2));
+        told("256 moments", x, 3, 1, 0, 1, -1, 24, 1);
+        x.again();
+        Check.due("read() of what was made", x.read(), 2048);
+        Check.due("the last sample", x.sample(2047), 2502);
     }
 
     private static void keptStream() {

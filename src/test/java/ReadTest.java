@@ -19,6 +19,7 @@ public final class ReadTest {
         wrongSums();
         wrongChannels();
         ends();
+        olderTape();
         behind();
         stateStays();
         Check.end();
@@ -312,6 +313,19 @@ public final class ReadTest {
             bad("cut behind " + bytes + " bytes", b.copy().cut(bytes), 1, place);
         }
         good("not cut", b, 1, 2);
+    }
+
+    /** What an older tape held behind the end of this one is not read. */
+    private static void olderTape() {
+        SoundPacker x = new SoundPacker();
+        Bits b = type(one(1), 8).put(6, 0).put(4, 0);
+        int row = b.length();
+        b.copy().put(22, 0).put(64, -1).feedTo(x);
+        Check.badArgument("read() of the older one", x::read);
+        b.copy().put(22, 0).feedTo(x);
+        Check.badArgument("read()", x::read);
+        Check.due("fault()", x.fault(), 1);
+        Check.due("place()", x.place(), row);
     }
 
     private static void behind() {
