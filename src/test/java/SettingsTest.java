@@ -8,7 +8,6 @@ public final class SettingsTest {
         wrongShapes();
         predictor();
         samples();
-        fullRow();
         counts();
         Check.end();
     }
@@ -104,25 +103,6 @@ public final class SettingsTest {
                 Check.badArgument("sample(" + i + ")", () -> x.sample(i));
             }
         }
-    }
-
-    /** 512 calls can't push so many: a stream of numbers that are all one brings them. */
-    private static void fullRow() {
-        SoundPacker x = new SoundPacker();
-        Bits b = new Bits().head(1, 16, 256, 44100, 4095);
-        for (int f = 0; f < 16; f++) {
-            b.frame(0, f, f < 15 ? 256 : 255).put(1, 0).put(6, 0).put(1, 0).put(16, -f).endFrame();
-        }
-        b.feedTo(x);
-        Check.due("read()", x.read(), 4095);
-        x.push(32767);
-        Check.due("samples", x.count(0), 4096);
-        Check.badState("sample 4097", () -> x.push(0));
-        Check.badArgument("sample 4097 that is wrong besides", () -> x.push(32768));
-        Check.due("samples", x.count(0), 4096);
-        Check.due("sample(4095)", x.sample(4095), 32767);
-        Check.due("sample(4094)", x.sample(4094), -15);
-        Check.badArgument("sample(4096)", () -> x.sample(4096));
     }
 
     private static void counts() {

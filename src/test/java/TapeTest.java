@@ -4,7 +4,6 @@ public final class TapeTest {
         wrongFeeds();
         bytesInOrder();
         again();
-        fullTape();
         Check.end();
     }
 
@@ -66,21 +65,5 @@ public final class TapeTest {
         Check.due("the tape stays behind shape", x.count(7), made + 1);
         x.make();
         Check.due("the tape stays behind make", x.count(7), made + 1);
-    }
-
-    /** More than 512 calls, as fewer can't fill the tape: this edge is this program's own word. */
-    private static void fullTape() {
-        SoundPacker x = new SoundPacker();
-        for (int i = 0; i < 2499; i++) {
-            x.feed(0, 8);
-        }
-        Check.holds("feed", x.feed(0, 5));
-        Check.holds("four more are too many", !x.feed(0, 4));
-        Check.due("the tape", x.count(7), 19997);
-        Check.holds("three more", x.feed(0, 3));
-        Check.holds("one more is too many", !x.feed(0, 1));
-        Check.due("the tape", x.count(7), 20000);
-        Check.badArgument("read()", x::read);
-        Check.due("fault()", x.fault(), 2);
     }
 }

@@ -1,6 +1,10 @@
-/** A stream written bit by bit, as a text of 0 and 1. */
+import java.util.ArrayList;
+import java.util.List;
+
+/** A stream written bit by bit, as a text of 0 and 1; where each item begins is kept. */
 final class Bits {
     private final StringBuilder text = new StringBuilder();
+    private final List<Integer> items = new ArrayList<>();
     private int frameFrom = 0;
 
     static Bits of(String zerosAndOnes) {
@@ -9,7 +13,9 @@ final class Bits {
         return b;
     }
 
+    /** One item, none if it has no bits. */
     Bits put(int width, long x) {
+        beginItem(width);
         for (int i = width - 1; i >= 0; i--) {
             text.append((x >> i & 1) == 1 ? '1' : '0');
         }
@@ -22,11 +28,28 @@ final class Bits {
     }
 
     Bits row(long zeros) {
-        for (long i = 0; i < zeros; i++) {
-            text.append('0');
+        return oneItem("0".repeat((int) zeros) + "1");
+    }
+
+    /** All of it as one item, however long it is. */
+    Bits oneItem(String zerosAndOnes) {
+        beginItem(zerosAndOnes.length());
+        return add(zerosAndOnes);
+    }
+
+    private void beginItem(int width) {
+        if (width > 0) {
+            items.add(text.length());
         }
-        text.append('1');
-        return this;
+    }
+
+    /** Where the item begins that the bit stands in. */
+    int itemAt(int bit) {
+        int found = 0;
+        for (int begin : items) {
+            found = begin <= bit ? begin : found;
+        }
+        return found;
     }
 
     /** What a stream begins with, the first words being the last ones. */
@@ -37,7 +60,7 @@ final class Bits {
 
     Bits settings(int channels, int bits, int block, int rate, long moments) {
         return put(16, block).put(16, block).put(24, 0).put(24, 0).put(20, rate).put(3, channels - 1)
-                .put(5, bits - 1).put(36, moments).put(64, 0).put(64, 0);
+                .put(5, bits - 1).put(36, moments).oneItem("0".repeat(128));
     }
 
     Bits frame(int assignment, int number, int moments) {
@@ -51,11 +74,29 @@ final class Bits {
         return put(8, moments - 1).put(8, sum(8, 7));
     }
 
-    Bits endFrame() {
-        while (text.length() % 8 != 0) {
-            text.append('0');
+    /** All frames of so many moments, in each of which channel c is the one number v[c]. */
+    Bits frames(int bits, int block, int moments, int... v) {
+        for (int f = 0; f * block < moments; f++) {
+            frame(v.length - 1, f, Math.min(block, moments - f * block));
+            for (int number : v) {
+                subframe(0).put(bits, number);
+            }
+            endFrame();
         }
-        return put(16, sum(16, 0x8005));
+        return this;
+    }
+
+    /** What a subframe begins with, without wasted bits. */
+    Bits subframe(int type) {
+        return put(1, 0).put(6, type).put(1, 0);
+    }
+
+    Bits subframe(int type, int wasted) {
+        return put(1, 0).put(6, type).put(1, 1).row(wasted - 1);
+    }
+
+    Bits endFrame() {
+        return put(-text.length() & 7, 0).put(16, sum(16, 0x8005));
     }
 
     /** The sum over what stands from the frame's first bit on, by the document's own words. */
@@ -102,7 +143,10 @@ final class Bits {
     }
 
     Bits copy() {
-        return of(text());
+        Bits b = of(text());
+        b.items.addAll(items);
+        b.frameFrom = frameFrom;
+        return b;
     }
 
     Bits cut(int bytes) {
