@@ -15,8 +15,11 @@ public final class EdgesOfMakingTest {
         oneChannelToEight();
         farthestApart();
         downwards();
+        middlesThatChange();
+        longestFrames();
         wastedBits();
         wastedBitsOfTheDifference();
+        wastedBitsOfEachFrame();
         oneNumber();
         moreFirstOnesThanNumbers();
         farResiduals();
@@ -131,6 +134,9 @@ public final class EdgesOfMakingTest {
         b.feedTo(x);
         x.read();
         Check.due("256 frames", x.make(), b.bytes());
+        for (int i = 0; i < 42; i++) {
+            Check.due("4096 moments: octet(" + i + ")", x.octet(i), b.octet(i));
+        }
         for (int f : new int[] {0, 1, 126, 127}) {
             Check.due("frame " + f, x.octet(at[f]), f);
             Check.due("its moments", x.octet(at[f] + 1), 15);
@@ -236,6 +242,43 @@ public final class EdgesOfMakingTest {
         Making.told("halves, down", x, 0, 0, 32, 0, 0, 8 + 16 + 9 + 15 + 10 + 18, 0);
     }
 
+    /** Middles below 0 that change by one: residuals of fixed predictor 1, which are near 0. */
+    private static void middlesThatChange() {
+        Bits b = head(2, 16, 16, 8).frame(10, 0, 8).subframe(9).put(16, -9001).put(2, 0).put(4, 0).put(4, 0);
+        int[] samples = new int[16];
+        int middle = -9001;
+        for (int t = 0; t < 8; t++) {
+            if (t > 0) {
+                middle += t % 2 == 0 ? 1 : -1;
+                b.row(t % 2 == 0 ? 2 : 1);
+            }
+            int half = (0x65 >> t & 1) == 0 ? 20001 : -20000;
+            samples[2 * t] = middle + half;
+            samples[2 * t + 1] = middle - half + 1;
+        }
+        b.subframe(1);
+        for (int t = 0; t < 8; t++) {
+            b.put(17, samples[2 * t] - samples[2 * t + 1]);
+        }
+        SoundPacker x = Making.packer(2, 16, 16, samples);
+        Making.same("middles that change", x, b.endFrame());
+        Making.told("middles that change", x, 0, 0, 9, 0, 0, 8 + 16 + 10 + 4 * 2 + 3 * 3, 10);
+    }
+
+    /** Two channels in frames of 256 moments: 512 calls can't push so many, so they are read. */
+    private static void longestFrames() {
+        Bits b = new Bits().head(2, 16, 256, 8000, 512).frames(16, 256, 512, 1001, -3002);
+        SoundPacker x = new SoundPacker();
+        b.feedTo(x);
+        Check.due("frames of 256: read()", x.read(), 1024);
+        Check.due("frames of 256: make()", x.make(), b.bytes());
+        Making.told("frames of 256", x, 1, 1, 0, 1, -1, 24, 1);
+        x.shape(1, 4, 16, 1);
+        x.again();
+        Check.due("frames of 256: read() once more", x.read(), 1024);
+        Check.due("frames of 256: the last", x.sample(1023), -3002);
+    }
+
     /** "WASTED bits .. if its numbers are not all 0 and all multiples of 2, as many as can be", "w from 1 to b - 1" */
     private static void wastedBits() {
         for (int bits : new int[] {4, 16, 24}) {
@@ -281,6 +324,28 @@ public final class EdgesOfMakingTest {
             }
             Making.same(bits + " bits, l - r", x, b.endFrame());
             Making.told(bits + " bits, l - r", x, 0, 1, 1, bits - 1, -1, 8 + bits - 1 + 12, 8);
+        }
+    }
+
+    /** Each frame has wasted bits of its own, or none, whatever the one before had. */
+    private static void wastedBitsOfEachFrame() {
+        int[] tops = {96, 97, 0, 64, 98, 3};
+        int[] wasted = {5, 0, 0, 6, 1, 0};
+        int[] samples = new int[96];
+        for (int i = 0; i < 96; i++) {
+            samples[i] = i % 2 == 0 ? tops[i / 16] : -tops[i / 16];
+        }
+        SoundPacker x = Making.packer(1, 8, 16, samples);
+        for (int round = 0; round < 2; round++) {
+            x.make();
+            for (int f = 0; f < 6; f++) {
+                Check.due("frame " + f + ": wasted", x.way(f, 0, 1), wasted[f]);
+            }
+        }
+        x.again();
+        Check.due("wasted bits of each frame: read()", x.read(), 96);
+        for (int i = 0; i < 96; i++) {
+            Check.due("wasted bits of each frame: sample(" + i + ")", x.sample(i), samples[i]);
         }
     }
 
@@ -353,6 +418,15 @@ public final class EdgesOfMakingTest {
         x.again();
         Check.due("read()", x.read(), 9);
         Check.due("sample(8)", x.sample(8), 8388607);
+        // Differences of step four are 0, and every number is too far from 16383 times the one before.
+        int[] v = new int[16];
+        for (int i = 0; i < 16; i++) {
+            v[i] = 700001 + 3 * i * (i - 1) * (i - 2) / 2 + 5 * i;
+        }
+        SoundPacker y = Making.packer(1, 24, 16, v);
+        y.coefficient(16383);
+        y.make();
+        Making.told("only one's own residuals are too far", y, 0, 0, 12, 0, 0, 8 + 4 * 24 + 10 + 12, 0);
     }
 
     /** Residuals of 2^32 each, which 32 bits would take for 0. */

@@ -6,6 +6,7 @@ public final class EdgesOfReadTest {
         endsInEachItem();
         endsInOtherWords();
         endsInLongRows();
+        endsAheadOfAnOlderTape();
         endsInFrameNumber();
         endsInLaterFrames();
         noBitsNoEnd();
@@ -85,6 +86,39 @@ public final class EdgesOfReadTest {
         }
     }
 
+    /** What an older and longer tape held behind the end of this one is no part of it, be it fed or made. */
+    private static void endsAheadOfAnOlderTape() {
+        Bits b = new Bits().head(1, 8, 16, 8000, 2).frame(0, 0, 2).subframe(8).put(2, 0).put(4, 0).put(4, 3)
+                .row(2).put(3, 1).row(1).put(3, 2).endFrame();
+        whole("the older tape", b, 2);
+        for (int bytes = 0; bytes < b.bytes(); bytes++) {
+            for (int ones = 0; ones <= 1; ones++) {
+                SoundPacker x = new SoundPacker();
+                if (ones == 0) {
+                    b.feedTo(x);
+                    x.read();
+                } else {
+                    Bits.of("1".repeat(8 * b.bytes() + 800)).feedTo(x);
+                    Check.badArgument("bits 1: read()", x::read);
+                }
+                b.copy().cut(bytes).feedTo(x);
+                Check.badArgument("cut behind " + bytes + ": read()", x::read);
+                Check.due("cut behind " + bytes + ": fault()", x.fault(), 1);
+                Check.due("cut behind " + bytes + ": place()", x.place(), b.itemAt(8 * bytes));
+            }
+        }
+        SoundPacker x = Making.packer(1, 16, 16, 30000, -29999, 12345, 7, -8, 999);
+        x.make();
+        x.again();
+        Check.due("the longer stream is read", x.read(), 6);
+        Bits row = new Bits().head(1, 8, 16, 8000, 1).frame(0, 0, 1).subframe(8).put(2, 0).put(4, 0).put(4, 0);
+        row.copy().put(-row.length() & 7, 0).feedTo(x);
+        Check.badArgument("a row without a 1: read()", x::read);
+        Check.due("a row without a 1: fault()", x.fault(), 1);
+        Check.due("a row without a 1: place()", x.place(), row.length());
+    }
+
+    /** Both bytes of a number from 128 on are items. */
     private static void endsInFrameNumber() {
         Bits b = new Bits().head(1, 4, 16, 8000, 4096).frames(4, 16, 16 * 130, 1);
         for (int bytes = b.bytes() - 24; bytes < b.bytes(); bytes++) {

@@ -24,6 +24,7 @@ public final class EdgesOfSubframesTest {
         bitsUpToAWholeByte();
         secondSum();
         channelsTooFar();
+        longestFrames();
         sumAheadOfChannels();
         Check.end();
     }
@@ -501,6 +502,27 @@ public final class EdgesOfSubframesTest {
             unite("the least difference", bits, 10, 0, 2 * least, least, -least);
             unite("the least difference", bits, 8, least, 2 * least, least, -least);
             unite("the least difference", bits, 9, 2 * least, most, most + 2 * least, most);
+        }
+    }
+
+    /** Frames of 256 moments, told in each of the four ways. */
+    private static void longestFrames() {
+        int[] assignments = {1, 8, 9, 10};
+        Bits b = new Bits().head(2, 16, 256, 8000, 1024);
+        for (int f = 0; f < 4; f++) {
+            int a = assignments[f];
+            b.frame(a, f, 256).subframe(0).put(Model.side(a, 0) ? 17 : 16, 1001);
+            b.subframe(0).put(Model.side(a, 1) ? 17 : 16, -3001).endFrame();
+        }
+        SoundPacker x = new SoundPacker();
+        b.feedTo(x);
+        Check.due("frames of 256: read()", x.read(), 2048);
+        // l and r; l and l less -3001; r and 1001 and r; the middle 1001, of 2003, and l - r.
+        int[] due = {1001, -3001, 1001, 4002, -2000, -3001, -499, 2502};
+        for (int f = 0; f < 4; f++) {
+            for (int i : new int[] {0, 1, 510, 511}) {
+                Check.due("frames of 256: sample(" + (512 * f + i) + ")", x.sample(512 * f + i), due[2 * f + i % 2]);
+            }
         }
     }
 
