@@ -47,12 +47,6 @@ public final class EdgesOfSubframesTest {
         return b.row(u >> k).put(k, u);
     }
 
-    private static int[] with(int n, int at, int v) {
-        int[] x = new int[n];
-        x[at] = v;
-        return x;
-    }
-
     /** "1: 0" */
     private static void firstBit() {
         Reading.good("0", one(8, 1).subframe(0).put(8, 7).endFrame(), 7);
@@ -286,6 +280,18 @@ public final class EdgesOfSubframesTest {
         }
     }
 
+    /** Three numbers that are 0 but for one, which is e; its residual begins at the place. */
+    private static void oneOfThree(String name, Bits b, int limit, int at, int e, int place) {
+        String told = name + ", number " + at + " is " + e;
+        if (e >= -limit && e < limit) {
+            int[] due = new int[3];
+            due[at] = e;
+            Reading.good(told, b, due);
+        } else {
+            Reading.bad(told, b, 2, place);
+        }
+    }
+
     /** "of residuals: if the number isn't of b bits, at u's first item" */
     private static void numbersTooFar() {
         for (int bits : new int[] {4, 8, 16, 24}) {
@@ -302,12 +308,7 @@ public final class EdgesOfSubframesTest {
                             place = i == at ? b.length() : place;
                             folded(b, k, i == at ? e : 0);
                         }
-                        String name = bits + " bits, K " + k + ", number " + at + " is " + e;
-                        if (e >= -limit && e < limit) {
-                            Reading.good(name, b.endFrame(), with(3, at, e));
-                        } else {
-                            Reading.bad(name, b.endFrame(), 2, place);
-                        }
+                        oneOfThree(bits + " bits, K " + k, b.endFrame(), limit, at, e, place);
                     }
                 }
             }
@@ -326,12 +327,7 @@ public final class EdgesOfSubframesTest {
                         for (int i = 0; i < 3; i++) {
                             b.put(plain, i == at ? e : 0);
                         }
-                        String name = bits + " bits, B " + plain + ", number " + at + " is " + e;
-                        if (e >= -limit && e < limit) {
-                            Reading.good(name, b.endFrame(), with(3, at, e));
-                        } else {
-                            Reading.bad(name, b.endFrame(), 2, place);
-                        }
+                        oneOfThree(bits + " bits, B " + plain, b.endFrame(), limit, at, e, place);
                     }
                 }
             }
