@@ -10,7 +10,7 @@ public final class ReadAgainstModelTest {
             compare("seed " + seed, stream.bits);
             Random random = new Random(~seed * 0x9E3779B97F4A7C15L);
             for (int k = 0; k < 12; k++) {
-                compare("seed " + seed + ", harm " + k, harmed(stream, random, k));
+                compare("seed " + seed + ", harm " + k, stream.harmed(random, k));
             }
         }
         System.out.println("faults 0 to 4 came up: " + java.util.Arrays.toString(faults));
@@ -18,29 +18,6 @@ public final class ReadAgainstModelTest {
             Check.holds("fault " + kind + " came up often", faults[kind] > 100);
         }
         Check.end();
-    }
-
-    private static Bits harmed(RandomStream stream, Random random, int k) {
-        Bits b = stream.bits.copy();
-        if (k == 0) {
-            return b.cut(random.nextInt(b.bytes()));
-        }
-        if (k == 1) {
-            return b.put(8, random.nextInt(256));
-        }
-        if (k == 2 || stream.frames.isEmpty()) {
-            return b.flip(random.nextInt(Math.min(b.length(), 400)));
-        }
-        if (k == 3) {
-            return b.flip(random.nextInt(b.length()));
-        }
-        int[] frame = stream.frames.get(random.nextInt(stream.frames.size()));
-        for (int i = 0; i < 1 + k / 5; i++) {
-            int span = k == 4 ? 64 : frame[2] - frame[0];
-            b.flip(frame[0] + random.nextInt(Math.min(span, frame[2] - frame[0])));
-        }
-        RandomStream.mendSums(b, stream.frames);
-        return k == 11 ? b.cut(b.bytes() - random.nextInt(4)) : b;
     }
 
     private static void compare(String name, Bits stream) {

@@ -154,16 +154,20 @@ final class Bits {
         return this;
     }
 
+    /** The eight bytes from there on, or as many as there are, as feed() takes them. */
+    long word(int from) {
+        long w = 0;
+        for (int j = 0; j < Math.min(8, bytes() - from); j++) {
+            w |= (long) octet(from + j) << (56 - 8 * j);
+        }
+        return w;
+    }
+
     /** Puts the stream behind the tape of x. */
     boolean feedTo(SoundPacker x) {
         boolean all = true;
         for (int i = 0; i < bytes(); i += 8) {
-            int n = Math.min(8, bytes() - i);
-            long w = 0;
-            for (int j = 0; j < n; j++) {
-                w |= (long) octet(i + j) << (56 - 8 * j);
-            }
-            all &= x.feed(w, n);
+            all &= x.feed(word(i), Math.min(8, bytes() - i));
         }
         return all;
     }

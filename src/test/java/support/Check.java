@@ -14,6 +14,14 @@ final class Check {
         }
     }
 
+    static void due(String what, String got, String want) {
+        asked++;
+        if (!got.equals(want)) {
+            wrong++;
+            System.out.println(what + " answered " + got + ", due is " + want);
+        }
+    }
+
     static void holds(String what, boolean good) {
         due(what, good ? 1 : 0, 1);
     }

@@ -186,6 +186,30 @@ final class RandomStream {
         }
     }
 
+    /** A copy that is harmed in way k, 0 to 11: cut, longer, or bits turned, most of them with the sums made right. */
+    Bits harmed(Random random, int k) {
+        Bits b = bits.copy();
+        if (k == 0) {
+            return b.cut(random.nextInt(b.bytes()));
+        }
+        if (k == 1) {
+            return b.put(8, random.nextInt(256));
+        }
+        if (k == 2 || frames.isEmpty()) {
+            return b.flip(random.nextInt(Math.min(b.length(), 400)));
+        }
+        if (k == 3) {
+            return b.flip(random.nextInt(b.length()));
+        }
+        int[] frame = frames.get(random.nextInt(frames.size()));
+        for (int i = 0; i < 1 + k / 5; i++) {
+            int span = k == 4 ? 64 : frame[2] - frame[0];
+            b.flip(frame[0] + random.nextInt(Math.min(span, frame[2] - frame[0])));
+        }
+        mendSums(b, frames);
+        return k == 11 ? b.cut(b.bytes() - random.nextInt(4)) : b;
+    }
+
     /** Makes the sums of all frames right again, behind a change that moved nothing. */
     static void mendSums(Bits changed, List<int[]> frames) {
         for (int[] f : frames) {
